@@ -1,0 +1,248 @@
+/** Promises 19, 21, 22 and 23: station, eventAt, count and undo. (nightAt: MinuteTest.) */
+public final class StateTest {
+    private static final Due due = new Due("StateTest");
+
+    public static void main(String[] args) {
+        stationTells();
+        eventsAreKept();
+        wrongEvents();
+        counts();
+        undoing();
+        fourStates();
+        undoRestoresAllButTheText();
+        errorsAndQuestionsAreNotRecorded();
+        errorsChangeNothing();
+        due.end();
+    }
+
+    private static void stationTells() {
+        FieldPumps x = Stations.underPressure(100);
+        x.zone(40);
+        x.open(0, 1);
+        due.is(x.station(0), 100);
+        due.is(x.station(1), 0);
+        due.is(x.station(2), 100);
+        due.is(x.station(3), 10);
+        due.is(x.station(4), Stations.NOT_FOUND);
+        due.is(x.station(5), 1);
+        due.is(x.station(6), 0);
+        due.is(x.station(7), 0);
+        due.is(x.station(8), 0);
+        due.is(x.station(11), 2);
+        due.is(x.station(12), 0);
+        due.is(x.station(13), 0);
+        due.is(x.station(14), 100);
+        due.is(x.station(-1), Stations.INVALID);
+        due.is(x.station(15), Stations.INVALID);
+        due.is(x.station(Integer.MAX_VALUE), Stations.INVALID);
+        due.is(x.station(Integer.MIN_VALUE), Stations.INVALID);
+    }
+
+    private static void eventsAreKept() {
+        FieldPumps x = new FieldPumps();
+        x.pump(0, 400, 1000);
+        for (int i = 1; i <= 4; i++) {
+            x.pass(1);
+            x.service(0, 0);
+            x.service(0, 1);
+            due.is(x.count(6), 3 * i);
+        }
+        due.is(x.eventAt(11, 0), 0);
+        due.is(x.eventAt(11, 1), 1);
+        due.is(x.eventAt(11, 2), 0);
+        due.is(x.eventAt(10, 0), 3);
+        due.is(x.eventAt(10, 2), Stations.NOT_FOUND);
+        due.is(x.eventAt(12, 0), Stations.NOT_FOUND);
+        x.pass(1);
+        due.is(x.count(6), 12);
+        due.is(x.eventAt(0, 0), 3);
+        due.is(x.eventAt(0, 1), 5);
+        due.is(x.eventAt(1, 0), 0);
+        due.is(x.eventAt(2, 0), 1);
+        due.is(x.eventAt(2, 1), 4);
+        due.is(x.eventAt(11, 0), 1);
+        due.is(x.eventAt(11, 1), 1);
+        due.is(x.eventAt(12, 0), Stations.NOT_FOUND);
+    }
+
+    private static void wrongEvents() {
+        FieldPumps x = new FieldPumps();
+        x.pump(0, 400, 1000);
+        x.pass(1);
+        due.is(x.eventAt(-1, 0), Stations.INVALID);
+        due.is(x.eventAt(0, -1), Stations.INVALID);
+        due.is(x.eventAt(0, 3), Stations.INVALID);
+        due.is(x.eventAt(5, 3), Stations.INVALID);
+        due.is(x.eventAt(Integer.MIN_VALUE, 0), Stations.INVALID);
+        due.is(x.eventAt(Integer.MAX_VALUE, 0), Stations.NOT_FOUND);
+        due.is(x.eventAt(2, 0), Stations.NOT_FOUND);
+        due.is(x.eventAt(1, 2), 0);
+        due.is(x.eventAt(0, 2), Stations.NOT_FOUND);
+    }
+
+    private static void counts() {
+        FieldPumps x = new FieldPumps();
+        x.pump(0, 400, 1000);
+        x.pump(0, 400, 1000);
+        x.pump(0, 400, 1000);
+        x.zone(10);
+        x.zone(20);
+        x.open(1, 1);
+        x.programme(0, 1000, 1001);
+        x.set(16, 1);
+        Stations.passLong(x, 1501);
+        x.service(2, 0);
+        Stations.type(x, "p5;");
+        due.is(x.count(0), 3);
+        due.is(x.count(1), 2);
+        due.is(x.count(2), 1);
+        due.is(x.count(3), 1);
+        due.is(x.count(4), 0);
+        due.is(x.count(5), 2);
+        due.is(x.count(6), 5);
+        due.is(x.count(7), 1501);
+        due.is(x.count(8), 61);
+        due.is(x.count(9), 4);
+        due.is(x.count(10), 3);
+        for (int what = 11; what < 20; what++) {
+            due.is(x.count(what), Stations.INVALID);
+        }
+        due.is(x.count(36), 1);
+        due.is(x.count(38), 0);
+        due.is(x.count(-1), Stations.INVALID);
+        due.is(x.count(39), Stations.INVALID);
+        due.is(x.count(Integer.MIN_VALUE), Stations.INVALID);
+        due.is(x.count(Integer.MAX_VALUE), Stations.INVALID);
+        x = new FieldPumps();
+        x.pump(0, 400, 1000);
+        x.pump(0, 400, 1000);
+        due.is(x.count(4), 2);
+        x.pass(1);
+        due.is(x.count(4), 1);
+        x.service(1, 0);
+        due.is(x.count(4), 0);
+    }
+
+    private static void undoing() {
+        FieldPumps x = new FieldPumps();
+        due.is(x.undo(), Stations.NOT_POSSIBLE);
+        x.set(0, 500);
+        x.set(0, 600);
+        due.is(x.count(9), 2);
+        due.is(x.undo(), 1);
+        due.is(x.count(20), 500);
+        x.set(0, 700);
+        due.is(x.count(9), 2);
+        due.is(x.undo(), 1);
+        due.is(x.count(20), 500);
+        due.is(x.undo(), 0);
+        due.is(x.count(20), 400);
+        due.is(x.undo(), Stations.NOT_POSSIBLE);
+        due.is(x.count(20), 400);
+    }
+
+    private static void fourStates() {
+        FieldPumps x = new FieldPumps();
+        for (int i = 1; i <= 6; i++) {
+            x.fill(i);
+            due.is(x.count(9), Math.min(4, i));
+        }
+        for (int i = 3; i >= 0; i--) {
+            due.is(x.undo(), i);
+            due.is(x.station(1), i + 2);
+        }
+        due.is(x.undo(), Stations.NOT_POSSIBLE);
+        due.is(x.station(1), 2);
+    }
+
+    /** A station in which everything is there to be restored. */
+    private static FieldPumps full() {
+        FieldPumps x = new FieldPumps();
+        x.pump(1, 700, 20);
+        x.pump(0, 650, 30);
+        x.pump(2, 600, 400);
+        x.zone(200);
+        x.zone(50);
+        x.open(1, 1);
+        x.programme(0, 20, 60);
+        x.leak(100);
+        x.set(16, 1);
+        Stations.passLong(x, 100);
+        return x;
+    }
+
+    private static void undoRestoresAllButTheText() {
+        FieldPumps x = full();
+        String before = Stations.all(x);
+        int[] done = {
+            x.set(0, 777), undone(x, before), x.pump(0, 500, 5), undone(x, before),
+            x.service(1, 0), undone(x, before), x.zone(77), undone(x, before),
+            x.open(0, 1), undone(x, before), x.leak(77), undone(x, before),
+            x.programme(1, 7, 8), undone(x, before), x.fill(7777), undone(x, before),
+            x.pass(240), undone(x, before), x.set(12, 0), undone(x, before)};
+        for (int answer : done) {
+            due.is(answer >= 0 ? 1 : 0, 1);
+        }
+        x.set(11, 10000);
+        x.set(13, 1);
+        x.fill(0);
+        x.pass(1);
+        x.fill(1999);
+        before = Stations.all(x);
+        due.is(x.reset(), 1);
+        undone(x, before);
+        // The text is not restored.
+        x.clearText();
+        Stations.type(x, "p1;");
+        x.play();
+        Stations.type(x, "p2;");
+        x.undo();
+        due.is(x.count(10), 6);
+    }
+
+    /** Undoes a change that has altered something; the state is as before but for the history. */
+    private static int undone(FieldPumps x, String before) {
+        due.isTrue("something was changed", !before.equals(Stations.all(x)));
+        due.is(x.undo(), 3);
+        x.leak(x.count(9) == 3 ? 100 : 0);
+        due.isTrue("all is as it was", before.equals(Stations.all(x)));
+        return 0;
+    }
+
+    private static void errorsAndQuestionsAreNotRecorded() {
+        FieldPumps x = full();
+        x.undo();
+        x.undo();
+        due.is(x.count(9), 2);
+        Stations.all(x);
+        x.curve(0, 1000, 0);
+        x.foresee(10, 0);
+        x.foreseeEvent(0);
+        x.type('x');
+        x.fault(0);
+        due.is(x.play(), Stations.NOT_POSSIBLE);
+        x.clearText();
+        due.is(x.count(9), 2);
+    }
+
+    private static void errorsChangeNothing() {
+        FieldPumps x = full();
+        Stations.type(x, "p5;x");
+        String before = Stations.all(x);
+        due.is(x.set(0, 99), Stations.INVALID);
+        due.is(x.pump(3, 500, 5), Stations.INVALID);
+        due.is(x.service(0, 1), Stations.NOT_POSSIBLE);
+        due.is(x.service(9, 1), Stations.INVALID);
+        due.is(x.zone(0), Stations.INVALID);
+        due.is(x.open(1, 1), Stations.NOT_POSSIBLE);
+        due.is(x.open(9, 1), Stations.INVALID);
+        due.is(x.leak(1001), Stations.INVALID);
+        due.is(x.programme(0, 5, 5), Stations.INVALID);
+        due.is(x.fill(20001), Stations.INVALID);
+        due.is(x.reset(), Stations.NOT_POSSIBLE);
+        due.is(x.pass(241), Stations.INVALID);
+        due.is(x.type(31), Stations.INVALID);
+        due.is(x.play(), Stations.NOT_POSSIBLE);
+        due.isTrue("errors change nothing", before.equals(Stations.all(x)));
+    }
+}
