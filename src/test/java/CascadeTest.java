@@ -12,6 +12,7 @@ public final class CascadeTest {
         startingNone();
         minutesToStop();
         minutesToStopOfAVariableOne();
+        bandThatIsSet();
         stoppingTheOneWithTheMostMinutes();
         equalMinutesToStop();
         variableOneIsNotStopped();
@@ -294,6 +295,26 @@ public final class CascadeTest {
         due.is(x.station(12), 0);
         x.set(4, 479);
         x.pass(1);
+        due.is(x.station(12), 1);
+    }
+
+    private static void bandThatIsSet() {
+        FieldPumps x = Stations.giving(1);
+        x.set(1, 50);
+        x.fill(349);
+        x.pass(1);
+        due.is(x.station(11), 2);
+        x.fill(1);
+        x.pass(1);
+        due.is(x.station(0), 350);
+        due.is(x.station(11), 0);
+        x.fill(100);
+        x.pass(1);
+        due.is(x.station(0), 450);
+        due.is(x.station(12), 0);
+        x.fill(1);
+        x.pass(1);
+        due.is(x.station(0), 451);
         due.is(x.station(12), 1);
     }
 

@@ -9,7 +9,8 @@ public final class StateTest {
         counts();
         undoing();
         fourStates();
-        undoRestoresAllButTheText();
+        eachChangeIsRecorded();
+        theTextIsNotRestored();
         errorsAndQuestionsAreNotRecorded();
         errorsChangeNothing();
         due.end();
@@ -155,7 +156,7 @@ public final class StateTest {
         due.is(x.station(1), 2);
     }
 
-    /** A station in which everything is there to be restored. */
+    /** A station in which everything is there to be restored, with three states in its history. */
     private static FieldPumps full() {
         FieldPumps x = new FieldPumps();
         x.pump(1, 700, 20);
@@ -168,50 +169,63 @@ public final class StateTest {
         x.leak(100);
         x.set(16, 1);
         Stations.passLong(x, 100);
+        x.fill(9000);
+        x.undo();
         return x;
     }
 
-    private static void undoRestoresAllButTheText() {
-        FieldPumps x = full();
-        String before = Stations.all(x);
-        int[] done = {
-            x.set(0, 777), undone(x, before), x.pump(0, 500, 5), undone(x, before),
-            x.service(1, 0), undone(x, before), x.zone(77), undone(x, before),
-            x.open(0, 1), undone(x, before), x.leak(77), undone(x, before),
-            x.programme(1, 7, 8), undone(x, before), x.fill(7777), undone(x, before),
-            x.pass(240), undone(x, before), x.set(12, 0), undone(x, before)};
-        for (int answer : done) {
-            due.is(answer >= 0 ? 1 : 0, 1);
+    private static void eachChangeIsRecorded() {
+        for (int change = 0; change < 11; change++) {
+            FieldPumps x = full();
+            if (change == 10) {
+                trip(x);
+            }
+            String before = Stations.all(x);
+            due.is(x.count(9), 3);
+            due.is(change(x, change) >= 0 ? 1 : 0, 1);
+            due.is(x.count(9), 4);
+            due.is(x.undo(), 3);
+            due.isTrue("change " + change + " is undone", before.equals(Stations.all(x)));
         }
+    }
+
+    private static void trip(FieldPumps x) {
         x.set(11, 10000);
         x.set(13, 1);
         x.fill(0);
         x.pass(1);
-        x.fill(1999);
-        before = Stations.all(x);
-        due.is(x.reset(), 1);
-        undone(x, before);
-        // The text is not restored.
-        x.clearText();
+        x.fill(9000);
+        x.undo();
+    }
+
+    private static int change(FieldPumps x, int change) {
+        switch (change) {
+            case 0: return x.set(0, 777);
+            case 1: return x.pump(0, 500, 5);
+            case 2: return x.service(1, 0);
+            case 3: return x.zone(77);
+            case 4: return x.open(0, 1);
+            case 5: return x.leak(77);
+            case 6: return x.programme(1, 7, 8);
+            case 7: return x.fill(7777);
+            case 8: return x.pass(240);
+            case 9: return x.play();
+            default: return x.reset();
+        }
+    }
+
+    private static void theTextIsNotRestored() {
+        FieldPumps x = full();
         Stations.type(x, "p1;");
         x.play();
         Stations.type(x, "p2;");
         x.undo();
         due.is(x.count(10), 6);
-    }
-
-    /** Undoes a change that has altered something; the state is as before but for the history. */
-    private static int undone(FieldPumps x, String before) {
-        due.isTrue("something was changed", !before.equals(Stations.all(x)));
-        due.is(x.undo(), 3);
-        x.leak(x.count(9) == 3 ? 100 : 0);
-        due.isTrue("all is as it was", before.equals(Stations.all(x)));
-        return 0;
+        due.is(x.play(), 2);
     }
 
     private static void errorsAndQuestionsAreNotRecorded() {
         FieldPumps x = full();
-        x.undo();
         x.undo();
         due.is(x.count(9), 2);
         Stations.all(x);
