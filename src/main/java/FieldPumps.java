@@ -848,7 +848,6 @@ public final class FieldPumps {
             if (!has(pump)) {
                 return;
             }
-            minutesSinceStart[pump] = 0;
             starts[pump]++;
             speeds[pump] = FULL_SPEED;
             if (kinds[pump] == FIXED) {

@@ -257,6 +257,7 @@ public final class CascadeTest {
         due.is(x.eventAt(1, 0), 3);
         x.pass(10);
         due.is(x.station(5), 0);
+        due.is(x.station(12), 0);
         due.is(x.count(6), 3);
     }
 

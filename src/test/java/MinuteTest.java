@@ -17,10 +17,13 @@ public final class MinuteTest {
         nightFlowBeginsAnewAloneAtItsEnd();
         sevenNights();
         leakAlarms();
+        leakAlarmsByTheLatestNight();
         dryMinutes();
         trips();
         threeTrips();
+        minutesBeginAnewWhenDry();
         tripAndGoingOnInOneMinute();
+        asManyAsThereMayBe();
         due.end();
     }
 
@@ -322,6 +325,88 @@ public final class MinuteTest {
         due.is(x.nightAt(0), 350);
         night(x, 353);
         due.is(x.station(10), 3);
+    }
+
+    private static void leakAlarmsByTheLatestNight() {
+        int[][] orders = {{100, 300, 200}, {200, 100, 300}, {100, 200, 300}, {200, 200, 300},
+            {100, 200, 200}, {400, 300, 200, 100}};
+        for (int[] order : orders) {
+            FieldPumps x = Stations.giving(200);
+            x.set(17, 50);
+            for (int flow : order) {
+                night(x, flow);
+            }
+            due.is(x.station(10), 0);
+            night(x, 250);
+            due.is(x.station(10), 0);
+            x.undo();
+            x.fill(251);
+            x.pass(1);
+            due.is(x.station(10), 1);
+            // All of it is undone.
+            due.is(x.count(5), order.length + 1);
+            x.undo();
+            due.is(x.station(10), 0);
+            due.is(x.count(5), order.length);
+            due.is(x.nightAt(0), order[order.length - 1]);
+            due.is(x.nightAt(1), order[order.length - 2]);
+        }
+        FieldPumps x = Stations.giving(200);
+        x.set(15, 1);
+        x.fill(7);
+        x.pass(1);
+        due.is(x.station(9), 7);
+        x.undo();
+        due.is(x.station(9), 0);
+    }
+
+    private static void minutesBeginAnewWhenDry() {
+        FieldPumps x = new FieldPumps();
+        x.pump(0, 400, 1000);
+        x.set(14, 0);
+        x.fill(100);
+        x.pass(1);
+        due.is(x.station(11), 1);
+        x.pass(1);
+        due.is(x.station(6), 1);
+        due.is(x.station(11), 0);
+        x = Stations.underPressure(421);
+        due.is(x.station(12), 1);
+        x.set(11, 500);
+        x.set(13, 1);
+        x.pass(1);
+        due.is(x.station(6), 1);
+        due.is(x.station(12), 0);
+        // Undone with all minutes in a row.
+        x.undo();
+        due.is(x.station(12), 1);
+        due.is(x.station(6), 0);
+        due.is(x.station(8), 0);
+    }
+
+    private static void asManyAsThereMayBe() {
+        FieldPumps x = new FieldPumps();
+        for (int i = 0; i < 6; i++) {
+            due.is(x.pump(i % 3, 400, 10), i);
+        }
+        for (int i = 0; i < 8; i++) {
+            due.is(x.zone(50), i);
+            due.is(x.programme(i, 100 + i, 200 + i), i + 1);
+        }
+        x.set(16, 1);
+        x.set(18, 10);
+        x.set(9, 20);
+        due.is(x.pass(107), 107);
+        due.is(x.count(3), 8);
+        due.is(x.pass(100), 207);
+        due.is(x.count(3), 0);
+        Stations.passLong(x, 8 * 1440);
+        due.is(x.count(5), 7);
+        due.is(x.count(6), 12);
+        due.isTrue("it can be asked", !Stations.all(x).isEmpty());
+        for (int kind = 0; kind < 8; kind++) {
+            due.isTrue("it foretells", x.foreseeEvent(kind) != 0);
+        }
     }
 
     /** Without pumps and refill. */

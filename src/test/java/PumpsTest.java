@@ -8,6 +8,7 @@ public final class PumpsTest {
         takingOutOfService();
         wrongService();
         handingOverTheVariableOne();
+        handingOverToEqualOnes();
         whatAPumpTells();
         minutesSinceTheStart();
         curves();
@@ -121,6 +122,39 @@ public final class PumpsTest {
         due.is(x.pumpOf(1, 5), 0);
     }
 
+    private static void handingOverToEqualOnes() {
+        FieldPumps x = new FieldPumps();
+        x.pump(1, 400, 1000);
+        x.pump(1, 400, 1000);
+        x.set(2, 100);
+        x.set(3, 500);
+        x.set(4, 900);
+        x.set(5, 60);
+        x.service(1, 0);
+        x.pass(3);
+        x.service(0, 0);
+        x.service(1, 1);
+        x.pass(2);
+        x.service(0, 1);
+        x.set(5, 1);
+        // 1 runs its second minute, and 0, which has run two, is started behind it.
+        x.pass(1);
+        due.is(x.station(5), 2);
+        due.is(x.pumpOf(0, 6), 2);
+        due.is(x.pumpOf(1, 6), 2);
+        x.pump(1, 400, 1000);
+        x.pass(1);
+        due.is(x.station(5), 3);
+        due.is(x.station(4), 2);
+        x.service(2, 0);
+        due.is(x.station(4), 0);
+        x.undo();
+        due.is(x.station(4), 2);
+        x.service(0, 0);
+        x.service(2, 0);
+        due.is(x.station(4), 1);
+    }
+
     private static void whatAPumpTells() {
         FieldPumps x = new FieldPumps();
         x.pump(2, 600, 40);
@@ -179,6 +213,7 @@ public final class PumpsTest {
         due.is(x.curve(1, 300, 0), 94);
         x.pump(2, 2000, 1);
         due.is(x.curve(2, 1000, 0), 1414);
+        due.is(x.curve(2, 1000, 4), 1412);
         due.is(x.curve(2, 1000, 1999), 31);
         due.is(x.curve(2, 1000, 2000), 0);
         // 111 * 999 * 999 / 1000000 = 110.778; speeds that are rounded one by one tell less.
@@ -259,5 +294,12 @@ public final class PumpsTest {
         x.pass(3);
         due.is(x.pumpOf(1, 6), 2);
         due.is(x.balance(), 3);
+        x = new FieldPumps();
+        x.pump(0, 400, 1000);
+        x.pump(2, 400, 1000);
+        x.pump(0, 400, 1000);
+        x.pass(3);
+        // The jockey has run 2, the others have not.
+        due.is(x.balance(), 2);
     }
 }

@@ -10,7 +10,7 @@ public final class StateTest {
         undoing();
         fourStates();
         eachChangeIsRecorded();
-        theTextIsNotRestored();
+        theLeakIsRestoredAndTheTextIsNot();
         errorsAndQuestionsAreNotRecorded();
         errorsChangeNothing();
         due.end();
@@ -214,8 +214,11 @@ public final class StateTest {
         }
     }
 
-    private static void theTextIsNotRestored() {
+    private static void theLeakIsRestoredAndTheTextIsNot() {
         FieldPumps x = full();
+        x.leak(77);
+        x.undo();
+        due.is(x.leak(100), 100);
         Stations.type(x, "p1;");
         x.play();
         Stations.type(x, "p2;");
