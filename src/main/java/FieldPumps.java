@@ -446,7 +446,7 @@ public final class FieldPumps {
         return SOUND;
     }
 
-    /** Records the present state; the rows of the oldest one serve again when there are too many. */
+    /** Records the present state; the rows of the oldest one serve again if there are too many. */
     private void remember() {
         if (states >= MOST_STATES) {
             Station oldest = history[0];
@@ -998,7 +998,7 @@ public final class FieldPumps {
         }
     }
 
-    /** The flows of nights that are noted, the latest one first, and that of the night that is on. */
+    /** The flows of nights that are noted, the latest one first, and that of the present night. */
     private static final class Nights {
         static final int MOST = 7;
         static final int LEAST_TO_TELL = 3;

@@ -255,7 +255,7 @@ public final class CascadeTest {
         due.is(x.eventAt(0, 1), 6);
         due.is(x.eventAt(0, 2), 0);
         due.is(x.eventAt(1, 0), 3);
-        x.pass(10);
+        x.pass(12);
         due.is(x.station(5), 0);
         due.is(x.station(12), 0);
         due.is(x.count(6), 3);

@@ -99,6 +99,11 @@ public final class TextTest {
         faulty("o0; p1;", 3, 1);
         faulty("p5;o", 3, 1);
         faulty("p5;r", 3, 1);
+        // The text is full, and its last order is not ended.
+        faulty("p1;".repeat(19) + "p12", 57, 1);
+        faulty("p1;".repeat(19) + ";o1", 57, 1);
+        faulty("p1;".repeat(18) + "p001;p", 59, 1);
+        faulty("o".repeat(60), 0, 1);
     }
 
     private static void noSuchZoneOrPump() {
