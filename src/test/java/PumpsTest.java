@@ -120,6 +120,24 @@ public final class PumpsTest {
         due.is(x.station(4), Stations.NOT_FOUND);
         due.is(x.station(5), 1);
         due.is(x.pumpOf(1, 5), 0);
+        // As many pumps as there may be: the fixed ones are passed over, also the last one.
+        x = allRunning(1, 1, 0, 0, 0, 0);
+        due.is(x.station(4), 1);
+        due.is(x.service(1, 0), 1);
+        due.is(x.station(4), 0);
+        due.is(x.service(0, 0), 1);
+        due.is(x.station(4), Stations.NOT_FOUND);
+        // They have run longer in the order of their numbers; the pressure makes them stop so.
+        x.set(0, 100);
+        x.set(1, 1);
+        x.set(6, 1);
+        x.set(10, 1);
+        x.pass(30);
+        due.is(x.station(5), 0);
+        due.is(x.eventAt(0, 2), 5);
+        due.is(x.eventAt(1, 2), 4);
+        due.is(x.eventAt(2, 2), 3);
+        due.is(x.eventAt(3, 2), 2);
     }
 
     private static void handingOverToEqualOnes() {
@@ -216,9 +234,12 @@ public final class PumpsTest {
         due.is(x.curve(2, 1000, 4), 1412);
         due.is(x.curve(2, 1000, 1999), 31);
         due.is(x.curve(2, 1000, 2000), 0);
+        // 144 * 712 * 712 is 64 less than 73 millions.
+        x.pump(1, 144, 1);
+        due.is(x.curve(3, 712, 0), 268);
         // 111 * 999 * 999 / 1000000 = 110.778; speeds that are rounded one by one tell less.
         due.is(x.curve(1, 999, 0), 331);
-        due.is(x.count(9), 3);
+        due.is(x.count(9), 4);
     }
 
     private static void wrongCurves() {
