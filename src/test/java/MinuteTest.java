@@ -207,14 +207,6 @@ public final class MinuteTest {
         due.is(x.station(0), 130 - 13);
     }
 
-    /** Makes the next minute the whole night, with this flow. */
-    private static void night(FieldPumps x, int flow) {
-        x.set(15, x.count(8) + 1);
-        x.set(16, 1);
-        x.fill(flow);
-        x.pass(1);
-    }
-
     private static void nights() {
         FieldPumps x = Stations.giving(200);
         x.set(15, 3);
@@ -276,18 +268,18 @@ public final class MinuteTest {
         x.pass(1);
         due.is(x.station(9), 7);
         // The begin of another night does not drop it.
-        night(x, 5);
+        Stations.night(x, 5);
         due.is(x.nightAt(0), 12);
     }
 
     private static void sevenNights() {
         FieldPumps x = Stations.giving(200);
         for (int i = 1; i <= 7; i++) {
-            night(x, i);
+            Stations.night(x, i);
             due.is(x.count(5), i);
         }
         due.is(x.nightAt(6), 1);
-        night(x, 8);
+        Stations.night(x, 8);
         due.is(x.count(5), 7);
         due.is(x.nightAt(0), 8);
         due.is(x.nightAt(6), 2);
@@ -297,33 +289,33 @@ public final class MinuteTest {
     private static void leakAlarms() {
         FieldPumps x = Stations.giving(200);
         x.set(17, 50);
-        night(x, 200);
-        night(x, 100);
+        Stations.night(x, 200);
+        Stations.night(x, 100);
         // Two alone have been noted before.
-        night(x, 300);
+        Stations.night(x, 300);
         due.is(x.station(10), 0);
         // The middle one of 100, 200 and 300.
-        night(x, 250);
+        Stations.night(x, 250);
         due.is(x.station(10), 0);
         // The lower middle one of 100, 200, 250 and 300.
-        night(x, 251);
+        Stations.night(x, 251);
         due.is(x.station(10), 1);
         due.is(x.eventAt(0, 0), 6);
         due.is(x.eventAt(0, 1), x.count(7));
         due.is(x.eventAt(0, 2), Stations.NOT_FOUND);
         // The middle one of 100, 200, 250, 251 and 300.
-        night(x, 300);
+        Stations.night(x, 300);
         due.is(x.station(10), 1);
-        night(x, 302);
+        Stations.night(x, 302);
         due.is(x.station(10), 2);
         // Equal ones: of 100, 200, 250, 251, 300, 300 and 302 it is 251.
-        night(x, 301);
+        Stations.night(x, 301);
         due.is(x.station(10), 2);
         // The oldest, 200, is no more among 100, 250, 251, 300, 300, 301 and 302.
-        night(x, 350);
+        Stations.night(x, 350);
         due.is(x.station(10), 2);
         due.is(x.nightAt(0), 350);
-        night(x, 353);
+        Stations.night(x, 353);
         due.is(x.station(10), 3);
     }
 
@@ -334,10 +326,10 @@ public final class MinuteTest {
             FieldPumps x = Stations.giving(200);
             x.set(17, 50);
             for (int flow : order) {
-                night(x, flow);
+                Stations.night(x, flow);
             }
             due.is(x.station(10), 0);
-            night(x, 250);
+            Stations.night(x, 250);
             due.is(x.station(10), 0);
             x.undo();
             x.fill(251);

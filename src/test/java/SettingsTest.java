@@ -1,11 +1,6 @@
 /** Promises 1 and 2: a new object, and set. */
 public final class SettingsTest {
     private static final Due due = new Due("SettingsTest");
-    private static final int[][] RANGES = {
-        {100, 900, 400}, {1, 100, 20}, {0, 100, 20}, {1, 500, 100}, {300, 900, 500}, {1, 60, 3},
-        {1, 60, 5}, {0, 1000, 60}, {1, 60, 4}, {1, 300, 60}, {1, 200, 20}, {0, 10000, 500},
-        {0, 10000, 2000}, {1, 60, 2}, {0, 1000, 300}, {0, 1439, 60}, {1, 600, 180},
-        {0, 100000, 3000}, {0, 1440, 0}};
 
     public static void main(String[] args) {
         aNewObject();
@@ -20,8 +15,8 @@ public final class SettingsTest {
         for (int what = 0; what <= 10; what++) {
             due.is(x.count(what), 0);
         }
-        for (int what = 0; what < RANGES.length; what++) {
-            due.is(x.count(20 + what), RANGES[what][2]);
+        for (int what = 0; what < Stations.SETTINGS.length; what++) {
+            due.is(x.count(20 + what), Stations.SETTINGS[what][2]);
         }
         for (int what = 0; what <= 14; what++) {
             due.is(x.station(what), what == 1 ? 10000 : what == 4 ? Stations.NOT_FOUND : 0);
@@ -49,15 +44,15 @@ public final class SettingsTest {
     }
 
     private static void rangesOfSettings() {
-        for (int what = 0; what < RANGES.length; what++) {
+        for (int what = 0; what < Stations.SETTINGS.length; what++) {
             FieldPumps x = new FieldPumps();
-            int least = RANGES[what][0];
-            int most = RANGES[what][1];
+            int least = Stations.SETTINGS[what][0];
+            int most = Stations.SETTINGS[what][1];
             due.is(x.set(what, least - 1), Stations.INVALID);
             due.is(x.set(what, most + 1), Stations.INVALID);
-            due.is(x.count(20 + what), RANGES[what][2]);
+            due.is(x.count(20 + what), Stations.SETTINGS[what][2]);
             due.is(x.count(9), 0);
-            due.is(x.set(what, least), RANGES[what][2]);
+            due.is(x.set(what, least), Stations.SETTINGS[what][2]);
             due.is(x.set(what, most), least);
             due.is(x.set(what, most), most);
             due.is(x.count(20 + what), most);

@@ -156,27 +156,9 @@ public final class StateTest {
         due.is(x.station(1), 2);
     }
 
-    /** A station in which everything is there to be restored, with three states in its history. */
-    private static FieldPumps full() {
-        FieldPumps x = new FieldPumps();
-        x.pump(1, 700, 20);
-        x.pump(0, 650, 30);
-        x.pump(2, 600, 400);
-        x.zone(200);
-        x.zone(50);
-        x.open(1, 1);
-        x.programme(0, 20, 60);
-        x.leak(100);
-        x.set(16, 1);
-        Stations.passLong(x, 100);
-        x.fill(9000);
-        x.undo();
-        return x;
-    }
-
     private static void eachChangeIsRecorded() {
         for (int change = 0; change < 11; change++) {
-            FieldPumps x = full();
+            FieldPumps x = Stations.busy();
             if (change == 10) {
                 trip(x);
             }
@@ -215,7 +197,7 @@ public final class StateTest {
     }
 
     private static void theLeakIsRestoredAndTheTextIsNot() {
-        FieldPumps x = full();
+        FieldPumps x = Stations.busy();
         x.leak(77);
         x.undo();
         due.is(x.leak(100), 100);
@@ -228,7 +210,7 @@ public final class StateTest {
     }
 
     private static void errorsAndQuestionsAreNotRecorded() {
-        FieldPumps x = full();
+        FieldPumps x = Stations.busy();
         x.undo();
         due.is(x.count(9), 2);
         Stations.all(x);
@@ -243,7 +225,7 @@ public final class StateTest {
     }
 
     private static void errorsChangeNothing() {
-        FieldPumps x = full();
+        FieldPumps x = Stations.busy();
         Stations.type(x, "p5;x");
         String before = Stations.all(x);
         due.is(x.set(0, 99), Stations.INVALID);

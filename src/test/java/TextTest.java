@@ -46,20 +46,8 @@ public final class TextTest {
         due.is(x.count(9), 0);
     }
 
-    /** Two zones, the second one open, and two pumps, the second one out of service. */
-    private static FieldPumps small() {
-        FieldPumps x = new FieldPumps();
-        x.zone(100);
-        x.zone(100);
-        x.open(1, 1);
-        x.pump(0, 400, 1000);
-        x.pump(0, 400, 1000);
-        x.service(1, 0);
-        return x;
-    }
-
     private static void faulty(String text, int place, int reason) {
-        FieldPumps x = small();
+        FieldPumps x = Stations.small();
         Stations.type(x, text);
         due.is(x.fault(0), place);
         due.is(x.fault(1), reason);
@@ -68,7 +56,7 @@ public final class TextTest {
     }
 
     private static void sound(String text, int orders) {
-        FieldPumps x = small();
+        FieldPumps x = Stations.small();
         Stations.type(x, text);
         due.is(x.fault(0), Stations.NOT_FOUND);
         due.is(x.fault(1), Stations.NOT_FOUND);
@@ -166,7 +154,7 @@ public final class TextTest {
         faulty("p5;o9;o1;", 3, 2);
         faulty("p5;p5;p5;p5;p5;p5;p5;p5;p5;p5;p5;p5;p5;p5;p5;p5;p5;p5;p5;p0;", 57, 3);
         // A programme opens the zone while minutes go by.
-        FieldPumps x = small();
+        FieldPumps x = Stations.small();
         x.programme(0, 5, 9);
         Stations.type(x, "p5;o0;");
         due.is(x.fault(0), 3);
@@ -175,7 +163,7 @@ public final class TextTest {
     }
 
     private static void faultChangesNothing() {
-        FieldPumps x = small();
+        FieldPumps x = Stations.small();
         Stations.type(x, "o0;p240;s0;p240;r;");
         String before = Stations.all(x);
         due.is(x.fault(0), 16);
@@ -184,8 +172,8 @@ public final class TextTest {
     }
 
     private static void playing() {
-        FieldPumps x = small();
-        FieldPumps y = small();
+        FieldPumps x = Stations.small();
+        FieldPumps y = Stations.small();
         Stations.type(x, "o0;p30;c1;s0;p7;");
         due.is(x.play(), 5);
         y.open(0, 1);
@@ -240,7 +228,7 @@ public final class TextTest {
     }
 
     private static void playingWithAFault() {
-        FieldPumps x = small();
+        FieldPumps x = Stations.small();
         Stations.type(x, "p9;o0;o1;");
         String before = Stations.all(x);
         due.is(x.play(), Stations.NOT_POSSIBLE);
